@@ -1520,7 +1520,7 @@ public final class TearPost {
         }
 
         /** How much more SENDER 0 is PAID from here on; the LETTER handed first is told at depth 0. */
-        int lead(int done, int tired, int turn, int depth) {
+        private int lead(int done, int tired, int turn, int depth) {
             if (depth >= held) {
                 return 0;
             }
