@@ -915,11 +915,11 @@ public final class TearPost {
             int place = text.told(clause, which);
             int stop = text.told(clause, which + 1);
             int top = 0;
-            for (int n = 0; n < MOST_BYTES && place < stop; n++) {
+            for (int n = 0; n < MOST_BYTES && place < stop && place < text.size; n++) {
                 int operation = text.code[place] & 15;
                 int number = text.code[place] >> 4;
                 place++;
-                if (top >= HEIGHT || top < NEEDED[operation]) {
+                if (top >= HEIGHT || top < NEEDED[operation] || operation == WORD && number >= words.length) {
                     return BROKEN;
                 }
                 long last = top > 0 ? stack[top - 1] : 0;

@@ -13,6 +13,7 @@ public final class HandTest {
         tiredAtMost();
         onward();
         days();
+        daysOfEight();
         undoing();
         undoKeepsSixteen();
         undoLeavesTheRest();
@@ -168,6 +169,22 @@ public final class HandTest {
         due("count(14)", 999, x.count(14));
         due("undo()", 2, x.undo());
         due("count(14)", 998, x.count(14));
+    }
+
+    private static void daysOfEight() {
+        TearPost x = new TearPost();
+        for (int k = 0; k < 8; k++) {
+            x.reader(9, 0);
+            x.letter(20, 0, 1, k, 0);
+            x.hand(k, -1);
+            x.tire(k, 20 + k);
+        }
+        due("pass()", 1, x.pass());
+        for (int k = 0; k < 8; k++) {
+            due("tired " + k, 17 + k, x.of(k, 2));
+            due("had " + k, 1, x.of(k, 3));
+            due("paid " + k, 180, x.of(k, 5));
+        }
     }
 
     private static void undoing() {

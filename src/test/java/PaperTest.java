@@ -72,6 +72,14 @@ public final class PaperTest {
         due("it can't be", -1, x.order(0, 0));
         Checks.rule(x, "weeps 7;laughs if had=1 and weight<4;tires 50;rests 50");
         orderIs(x, 0, 28, 0, 3, 1, 2);
+        TearPost z = new TearPost();
+        z.reader(1, 0);
+        for (int k = 0; k < 4; k++) {
+            z.letter(k, 0, 1 + k, 0, 0);
+        }
+        Checks.rule(z, "weeps 50-tired;tires 20;rests had*2");
+        // behind the first had is 1, and one rests by 2, behind the second by 4, behind the third by 6
+        orderIs(z, 0, 50 + 32 + 16 + 2, 0, 1, 2, 3);
         TearPost y = new TearPost();
         y.reader(1, 0);
         y.letter(1, 0, 1, 0, 0);
@@ -123,6 +131,11 @@ public final class PaperTest {
         x.letter(10, 0, 1, 0, 1);
         due("sender 1 alone", -20, x.game(0, 0));
         due("sender 1 alone", 0, x.game(0, 1));
+        x.image(0);
+        x.letter(10, 0, 1, 0, 1);
+        due("the lowest of sender 1's alike ones", 0, x.game(0, 1));
+        due("both of them, 20 and 15", -35, x.game(0, 0));
+        x.back(0);
         x.letter(10, 0, 1, 0, 0);
         due("sender 0 begins: 20 - 15", 5, x.game(0, 0));
         due("sender 0 begins", 1, x.game(0, 1));

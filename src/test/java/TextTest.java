@@ -52,6 +52,14 @@ public final class TextTest {
         faultOfLaw("bars 1=1", 5);
         faultOfLaw("Weeps 1", 0);
         faultOfLaw("weepsgrief", 0);
+        faultOfLaw("laughsz", 0);
+        faultOfLaw("alaughs", 0);
+        faultOfLaw("laughs{", 6);
+        faultOfLaw("laughs`", 6);
+        faultOfLaw("laughs of 1=1", 7);
+        faultOfLaw("meeps 1", 0);
+        faultOfLaw("weeps 1:", 7);
+        faultOfLaw("weeps 9/09", -1);
         faultOfLaw("weeps grief soft", 12);
         faultOfLaw("weeps letters", 6);
         faultOfLaw("weeps if 1=1", 6);
