@@ -243,6 +243,10 @@ public final class PaperTest {
         due("joked() of 12", 4096, y.joked(-1));
         due("joked(4095)", 4095, y.joked(4095));
         due("joked(4096)", -1, y.joked(4096));
+        for (int k = 1; k < 8; k++) {
+            y.reader(1, 0);
+        }
+        due("joked() with eight readers", 4096, y.joked(-1));
         Checks.rule(y, "weeps 1");
         y.ledger(0, 11);
         due("one joke", 12, y.joked(-1));

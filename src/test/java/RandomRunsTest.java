@@ -42,6 +42,9 @@ public final class RandomRunsTest {
         int last = args.length > 1 ? Integer.parseInt(args[1]) : 250;
         for (int seed = first; seed <= last; seed++) {
             new RandomRunsTest(seed).run();
+            if (seed % 5 == 0) {
+                new RandomRunsTest(seed).searchRun();
+            }
         }
         System.out.println("random runs " + first + " to " + last + ": all answers are as due");
     }
@@ -54,6 +57,29 @@ public final class RandomRunsTest {
             step();
         }
         look();
+    }
+
+    /** Orders and games of seven letters, with laws by which all that was read matters, tired low and high. */
+    private void searchRun() {
+        call("reader", 1 + random.nextInt(9), 0);
+        for (int n = 0; n < 7; n++) {
+            call("letter", random.nextInt(31), random.nextInt(12), 1 + n, 0, random.nextInt(4) == 0 ? 0 : 1);
+        }
+        String[] tires = {"tires [tired*7+grief*13+1]%97", "tires 1+grief%3", "tires 99", "tires 1+weight%2+had%2"};
+        String[] weeps = {"weeps [tired*31+weight*17+day]%101", "weeps 1000-tired", "weeps tired%7*grief", "weeps tired"};
+        String[] bars = {"bars if tired%5=weight%5", "bars if had=0 and reader=0 and weight<4", "laughs if tired%3=joke%3",
+            "bars if weight=1 and tired%2=0", "rests 99", "rests 0"};
+        putOnTape(tires[random.nextInt(4)] + ";" + weeps[random.nextInt(4)] + ";" + bars[random.nextInt(6)]);
+        call("law");
+        call("force", 0);
+        int[] starts = {0, random.nextInt(40), 500 + random.nextInt(500), 999};
+        for (int tired : starts) {
+            call("tire", 0, tired);
+            call("order", 0, -1);
+            call("order", 0, random.nextInt(7));
+            call("game", 0, 0);
+            call("game", 0, 1);
+        }
     }
 
     /** Something to go on from: a run that begins with nothing is mostly refused. */
@@ -335,10 +361,13 @@ public final class RandomRunsTest {
         if (random.nextInt(10) == 0) {
             t.append("  ");
         }
-        byte[] bytes = t.toString().getBytes(java.nio.charset.StandardCharsets.ISO_8859_1);
-        if (bytes.length > 400) {
-            return;
+        if (t.length() <= 400) {
+            putOnTape(t.toString());
         }
+    }
+
+    private void putOnTape(String text) {
+        byte[] bytes = text.getBytes(java.nio.charset.StandardCharsets.ISO_8859_1);
         call("end", 0);
         for (int k = 0; k < bytes.length; k += 20) {
             Integer[] five = new Integer[5];
