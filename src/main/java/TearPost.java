@@ -645,7 +645,8 @@ public final class TearPost {
             boolean two = text.told(clause, Text.WITH) < text.told(clause, Text.TEST);
             int letter = machine.run(text, clause, Text.SUM, orderWords);
             int other = two ? machine.run(text, clause, Text.WITH, orderWords) : NONE;
-            if (letter == Machine.BROKEN || other == Machine.BROKEN) {
+            // A second SUM of NONE is no LETTER either: behind "with" it is two that are handed.
+            if (!isLetter(letter) || two && !isLetter(other)) {
                 return false;
             }
             answer = tryHanding(letter, other);

@@ -506,6 +506,7 @@ final class Model {
                         } else {
                             int a = (int) clause.sum.in(w);
                             int b = clause.with == null ? NONE : (int) clause.with.in(w);
+                            need(clause.with == null || s.isLetter(b), -2);
                             paid = handNow(a, b);
                         }
                         done++;

@@ -47,7 +47,6 @@ public final class OrdersTest {
         run("hand 0 if 1/0=1", 0, -1, 0, 0);
         run("hand 9 if 1=2;pass", 1, -1, 1, 0);
         run("hand 1/0 if 1=2;pass", 1, -1, 1, 0);
-        run("hand 0 with 0-1", 1, -1, 0, 30);
         run("pass;" + "hand 0;pass;hand 1", 4, -1, 2, 30 + 24 - 2);
     }
 
@@ -72,6 +71,11 @@ public final class OrdersTest {
         run("hand 5", -3, 0, 0, 0);
         run("hand 0-1", -3, 0, 0, 0);
         run("hand 0 with 5", -3, 0, 0, 0);
+        run("hand 0 with 0-1", -3, 0, 0, 0);
+        run("hand 0 with 0-2", -3, 0, 0, 0);
+        run("pass;hand 0 with paid", -3, 1, 0, 0);
+        run("hand 0;hand 1 with tired 7", -3, 1, 0, 0);
+        run("hand 0 with 0-1 if 1=2;pass", 1, -1, 1, 0);
         run("hand 0 with 0", -3, 0, 0, 0);
         run("hand 0 with 4", -3, 0, 0, 0);
         run("pass;hand 0;hand 0", -3, 2, 0, 0);
