@@ -353,7 +353,7 @@ public final class TearPost {
 
     public int joked(int i) {
         suspects.gather();
-        return i == NONE ? suspects.howMany() : suspects.setNumber(i);
+        return suspects.sets(i);
     }
 
     public int inside(int letter, int paid, int i) {
@@ -1582,13 +1582,12 @@ public final class TearPost {
 
     /** WHO JOKED: the sets of HELD LETTERS that can have been jokes, by the LEDGERS. */
     private static final class Suspects {
-        private static final int SETS = 1 << MOST_LETTERS;
-
         private final Heart heart;
         private final World world;
         private final int[] sheet;
-        // A bit for each set: LETTERS are handed from the lowest, so sets are not found in their order.
-        private final int[] possible = new int[SETS / 32];
+        private final int[] tears = new int[MOST_LETTERS];
+        private final int[] paid = new int[MOST_READERS];
+        private int held;
 
         Suspects(Heart heart, World world, int[] sheet) {
             this.heart = heart;
@@ -1596,68 +1595,54 @@ public final class TearPost {
             this.sheet = sheet;
         }
 
+        /**
+         * Hands all HELD LETTERS on the sheet, and notes what is wept for each of them. One is as TIRED by a joke
+         * as without it, and no LAW can ask what was paid: what one weeps is the same whichever were jokes.
+         */
         void gather() {
             System.arraycopy(world.stand, 0, sheet, 0, STAND);
-            Arrays.fill(possible, 0);
-            suspect(0, 0);
-        }
-
-        /** Hands the LETTERS from a number on, each as a joke and as none. */
-        private void suspect(int letter, int jokes) {
-            if (letter >= sheet[LETTERS] || letter >= MOST_LETTERS) {
-                if (ledgersAreSo()) {
-                    possible[jokes >> 5] |= 1 << (jokes & 31);
-                }
-                return;
-            }
-            if (sheet[READ + letter] != 0) {
-                suspect(letter + 1, jokes);
-                return;
-            }
-            int reader = sheet[GOES_TO + letter];
-            int tired = sheet[TIRED + reader];
-            int paid = sheet[PAID + reader];
-            heart.face(world.ruling(), sheet, reader);
-            heart.hold(sheet[GRIEF + letter], sheet[JOKE + letter], sheet[WEIGHT + letter], 1);
-            int weeps = heart.weeping();
-            sheet[TIRED + reader] = Math.min(MOST_TIRED, tired + heart.tiring());
-            sheet[HAD + reader]++;
-            suspect(letter + 1, jokes | 1 << letter);
-            sheet[PAID + reader] = paid + weeps;
-            suspect(letter + 1, jokes);
-            sheet[PAID + reader] = paid;
-            sheet[TIRED + reader] = tired;
-            sheet[HAD + reader]--;
-        }
-
-        private boolean ledgersAreSo() {
-            for (int r = 0; r < sheet[READERS]; r++) {
-                if (world.ledgers[r] != NONE && world.ledgers[r] != sheet[PAID + r]) {
-                    return false;
+            held = 0;
+            for (int k = 0; k < sheet[LETTERS]; k++) {
+                tears[k] = 0;
+                if (sheet[READ + k] == 0) {
+                    int reader = sheet[GOES_TO + k];
+                    heart.face(world.ruling(), sheet, reader);
+                    heart.hold(sheet[GRIEF + k], sheet[JOKE + k], sheet[WEIGHT + k], 1);
+                    tears[k] = heart.weeping();
+                    sheet[TIRED + reader] = Math.min(MOST_TIRED, sheet[TIRED + reader] + heart.tiring());
+                    sheet[HAD + reader]++;
+                    held |= 1 << k;
                 }
             }
-            return true;
         }
 
-        int howMany() {
-            int many = 0;
-            for (int k = 0; k < possible.length; k++) {
-                many += Integer.bitCount(possible[k]);
-            }
-            return many;
-        }
-
-        int setNumber(int i) {
+        /** How many sets there are (i NONE), the i-th as bits; NONE if there are not so many. */
+        int sets(int i) {
             int found = 0;
-            for (int set = 0; set < SETS; set++) {
-                if ((possible[set >> 5] >> (set & 31) & 1) == 1) {
+            for (int jokes = 0; jokes <= held; jokes++) {
+                if ((jokes & ~held) == 0 && ledgersAreSo(jokes)) {
                     if (found == i) {
-                        return set;
+                        return jokes;
                     }
                     found++;
                 }
             }
-            return NONE;
+            return i == NONE ? found : NONE;
+        }
+
+        private boolean ledgersAreSo(int jokes) {
+            for (int r = 0; r < sheet[READERS]; r++) {
+                paid[r] = sheet[PAID + r];
+            }
+            for (int k = 0; k < sheet[LETTERS]; k++) {
+                paid[sheet[GOES_TO + k]] += (jokes >> k & 1) == 0 ? tears[k] : 0;
+            }
+            for (int r = 0; r < sheet[READERS]; r++) {
+                if (world.ledgers[r] != NONE && world.ledgers[r] != paid[r]) {
+                    return false;
+                }
+            }
+            return true;
         }
     }
 
