@@ -23,6 +23,7 @@ public final class PaperTest {
         gamesByLaw();
         ledgers();
         joked();
+        jokedByLaw();
         inside();
         nothingChanges();
         CHECKS.close("PaperTest");
@@ -251,6 +252,49 @@ public final class PaperTest {
         y.ledger(0, 11);
         due("one joke", 12, y.joked(-1));
         due("the last", 2048, y.joked(11));
+    }
+
+    private static void jokedByLaw() {
+        TearPost x = new TearPost();
+        x.reader(2, 0);
+        x.reader(3, 4);
+        x.terms(0, 5);
+        x.terms(2, 7);
+        x.letter(10, 2, 3, 1, 0);
+        x.letter(20, 4, 6, 0, 1);
+        x.letter(30, 6, 9, 1, 0);
+        Checks.rule(x, "weeps joke*10+weight+with*100+had*200;tires 90;laughs if 1=2");
+        // reader 1 weeps 20 + 3 + 100 for letter 0, 60 + 9 + 100 + 200 for letter 2; reader 0 weeps 40 + 6 + 100
+        x.ledger(1, 123 + 369);
+        x.ledger(0, 146);
+        due("none joked, by joke, weight, with, had", 1, x.joked(-1));
+        due("the empty set", 0, x.joked(0));
+        x.ledger(1, 369);
+        due("letter 0 did", 1, x.joked(0));
+        x.ledger(0, 0);
+        due("letter 1 did, too", 3, x.joked(0));
+        Checks.rule(x, "weeps tired+reader*200;tires 60+had");
+        x.tire(1, 30);
+        x.tire(0, 17);
+        x.ledger(0, 17);
+        // reader 1 weeps 230, is 90 then, weeps 290
+        x.ledger(1, 290);
+        due("tired goes up by a joke, too", 1, x.joked(0));
+        x.ledger(1, 520);
+        due("none joked, by tired", 0, x.joked(0));
+        due("one set", 1, x.joked(-1));
+        Checks.rule(x, "weeps tired;tires 50;rests 99");
+        x.tire(1, 990);
+        x.ledger(1, 999);
+        due("tired is 999 at most", 1, x.joked(0));
+        x.ledger(1, 1989);
+        due("both", 0, x.joked(0));
+        Checks.rule(x, "weeps grief*10+day+mood;tires 0");
+        x.ledger(0, 212);
+        x.ledger(1, 312);
+        due("day and mood stay", 1, x.joked(0));
+        due("nobody is handed anything", 3, x.count(3));
+        due("tired stays", 990, x.of(1, 2));
     }
 
     private static void inside() {
