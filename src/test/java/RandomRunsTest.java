@@ -53,7 +53,7 @@ public final class RandomRunsTest {
         if (seed % 5 != 1) {
             setUp();
         }
-        while (calls < CALLS - 60) {
+        while (calls < CALLS - 100) {
             step();
         }
         look();
