@@ -113,7 +113,8 @@ final class EdgesOfPost {
     }
 
     private void fiveHundredAndTwelveCalls() {
-        doc.says(1, "An office without letters.");
+        doc.says(1, "An object is used for at most 512 calls after it has been made; what later calls answer is free.");
+        doc.says(1, "and nothing about an object after its 512th call.");
         TearPost x = new TearPost();
         for (int call = 1; call <= 511; call++) {
             due("pass() as call " + call, call, x.pass());

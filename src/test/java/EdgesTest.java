@@ -13,6 +13,7 @@ public final class EdgesTest {
         new EdgesOfSeasons(doc).all();
         new EdgesOfImages(doc).all();
         new EdgesOfRefusals(doc).all();
+        new EdgesOfStory(doc).all();
         doc.close("EdgesTest");
     }
 }

@@ -14,6 +14,7 @@ import java.util.regex.Pattern;
 /** The public face, just as the document has it; the rules of LANGUAGE.md that can be seen from outside; the room. */
 public final class FaceTest {
     private static final Checks CHECKS = new Checks();
+    private static final Path CLASS = Path.of("src/main/java/TearPost.java");
     private static final String[] METHODS = {
         "road 2", "mow 0", "reader 2", "tire 2", "of 2", "letter 5", "at 2", "terms 2", "feed 5", "end 1", "row 0",
         "blots 0", "law 0", "orders 0", "fault 0", "stopped 0", "force 1", "asks 3", "rests 1", "hand 2", "onward 2",
@@ -23,6 +24,7 @@ public final class FaceTest {
     public static void main(String[] args) throws IOException {
         constants();
         face();
+        faceOfTheDocument();
         source();
         anyArguments();
         room();
@@ -68,8 +70,27 @@ public final class FaceTest {
         }
     }
 
+    /** Each line of the document's face stands in the class as it is told, with the names of its parameters. */
+    private static void faceOfTheDocument() throws IOException {
+        Path document = Path.of("../shared/DOC.md");
+        if (!Files.exists(document)) {
+            System.out.println("there is no " + document + ": its face is not looked up");
+            return;
+        }
+        List<String> source = Files.readAllLines(CLASS);
+        String face = Files.readString(document).split("## The public face")[1].split("```(java)?")[1];
+        int members = 0;
+        for (String line : face.split("\n")) {
+            String told = line.replace(");", ") {");
+            boolean stands = line.isBlank() || line.equals("}") || source.contains(told);
+            so("'" + line + "' stands in the class", stands);
+            members += line.startsWith("    public ") ? 1 : 0;
+        }
+        CHECKS.due("how many members the document's face has", METHODS.length + 3, members);
+    }
+
     private static void source() throws IOException {
-        String text = Files.readString(Path.of("src/main/java/TearPost.java"));
+        String text = Files.readString(CLASS);
         String code = text.replaceAll("(?s)/\\*.*?\\*/", "").replaceAll("//[^\n]*", "").replaceAll("\"[^\"]*\"", "\"\"");
         String[] ruledOut = {"\\bthrow\\b", "\\btry\\b", "\\bcatch\\b", "\\bsynchronized\\b", "\\bassert\\b", "->", "::",
             "\\w+Exact\\b", "\\.equals\\b", "\\bSystem\\.(?!arraycopy)", "_VALUE\\b", "\\bRandom\\b", "\\bThread\\b",

@@ -10,8 +10,8 @@ import java.util.regex.Pattern;
 
 /**
  * The document's sentences, beside the answers that are due by them: each test says first which promise it is of, and
- * which sentence it stands for. A sentence that the document has not, and one of its promises and Terms that no test
- * stands for, are faults, too.
+ * which sentence it stands for. A sentence that the document has not, and one of the document's, from "What it is" to
+ * "Not promised", that no test stands for, are faults, too.
  */
 final class Sentences {
     private static final Path DOCUMENT = Path.of("../shared/DOC.md");
@@ -39,7 +39,7 @@ final class Sentences {
         told = new boolean[document.length()];
     }
 
-    /** Takes in the Terms and the promises, without headings, marks and signatures. */
+    /** Takes in all but the face, of which FaceTest tells: without headings, marks and signatures. */
     private void read(List<String> lines) {
         int section = ELSEWHERE;
         boolean taken = false;
@@ -47,7 +47,7 @@ final class Sentences {
             Matcher promise = PROMISE.matcher(line);
             if (line.startsWith("## ")) {
                 section = promise.matches() ? Integer.parseInt(promise.group(1)) : ELSEWHERE;
-                taken = promise.matches() || line.equals("## Terms");
+                taken = !line.equals("## The public face");
             } else if (taken && !line.startsWith("```")) {
                 String signature = section == ELSEWHERE ? "^(I|II|III|IV)\\. " : "^`[^`]*`: ";
                 String text = line.replaceAll(signature, "") + " ";
