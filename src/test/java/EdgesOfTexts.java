@@ -20,6 +20,7 @@ final class EdgesOfTexts {
         testsAndSums();
         numbers();
         fiftyParts();
+        noPartBehindFifty();
         whatIsNoPart();
         eightBrackets();
         brackets();
@@ -210,6 +211,29 @@ final class EdgesOfTexts {
         orders("hand " + Checks.times(51, "day", "+"), 5 + 4 * 50);
         orders("hand 1 with " + Checks.times(50, "1", "+"), 12 + 2 * 49);
         orders("hand 1 with " + Checks.times(49, "1", "+"), NONE);
+    }
+
+    /** Where a 51st PART should stand and something else does, it is that which can't go on. */
+    private void noPartBehindFifty() {
+        doc.says(14, "50 PARTS that are NUMBERS and words (FAULT at the 51st),");
+        String sum = Checks.times(50, "1", "+");
+        int end = 6 + sum.length();
+        for (String behind : new String[] {"", ";bars", "if 1=1", ")", "]", "<1", "times 2", "with 1"}) {
+            law("weeps " + sum + "+" + behind, end + 1);
+            law("weeps " + sum + "*  " + behind, end + 3);
+            law("weeps " + sum + ";tires " + behind, end + 7);
+            law("weeps " + sum + ";bars if " + behind, end + 9);
+            law("weeps " + sum + ";bars if not " + behind, end + 13);
+            law("weeps " + sum + ";bars if (" + behind, end + 10);
+            orders("hand " + sum + "-" + behind, end);
+            orders("hand " + sum + " with " + behind, end + 5);
+            orders("hand " + sum + ";hand " + behind, end + 5);
+        }
+        law("weeps " + Checks.times(49, "1", "+") + "+[1+]", end + 2);
+        law("weeps " + Checks.times(48, "1", "+") + " if (1=1 and )", 6 + 95 + 13);
+        // what is no PART may stand behind the fiftieth
+        law("weeps " + sum + ";bars;laughs", NONE);
+        orders("hand " + sum + " times 2;pass", NONE);
     }
 
     private void whatIsNoPart() {
