@@ -21,6 +21,7 @@ final class EdgesOfPaper {
         ordersOfNoOne();
         theFirstOrder();
         aDayGoesBy();
+        tiredByAllOrNothing();
         behindTheLastDay();
         ordersThatCannotBe();
         ordersLivedThrough();
@@ -421,6 +422,34 @@ final class EdgesOfPaper {
         x.tire(0, 999);
         Checks.rule(x, "weeps tired-990;tires 50;rests 4");
         orderIs(x, 9 + 5 + 5, 0, 1, 2);
+    }
+
+    /**
+     * By letter 0 at first one comes to rest, by any other one to be tired ever more: behind letters 0 to 5 one may be tired
+     * by 0, behind 1 to 5 by nearly 999. These are no alike stands, though all letters but one are.
+     */
+    private void tiredByAllOrNothing() {
+        doc.says(25, "by which most is paid; the first (LETTERS by numbers).");
+        for (int start = 310; start <= 700; start++) {
+            TearPost x = EdgesOfPost.withReaders(1);
+            for (int k = 0; k < 8; k++) {
+                x.letter(0, 0, k == 0 ? 1 : 2, 0, 0);
+            }
+            x.tire(0, start);
+            Checks.rule(x, "weeps tired;tires 99;tires 0 if weight=1 or tired<" + start + ";rests 0;rests 99 if tired<"
+                    + (start + 1));
+            int paid = 0;
+            // from 999 on letter 0 tires no less than any other
+            int ahead = 0;
+            int[] letters = new int[8];
+            for (int k = 0; k < 8; k++) {
+                int tired = Math.min(999, start + 99 * k);
+                paid += tired;
+                ahead += tired < 999 ? 1 : 0;
+                letters[k] = tired < 999 ? k + 1 : k == ahead ? 0 : k;
+            }
+            orderIs(x, paid, letters);
+        }
     }
 
     private void behindTheLastDay() {
